@@ -4,12 +4,25 @@ final class Check {
         long make();
     }
 
+    private String sentence = "";
     private int wrong;
+
+    /** A sentence of the document with the tests that are its own; one that breaks off counts as wrong. */
+    void sentence(String words, Runnable... tests) {
+        sentence = "[" + words + "] ";
+        for (Runnable test : tests) {
+            try {
+                test.run();
+            } catch (RuntimeException e) {
+                tell("broke off by " + e);
+            }
+        }
+        sentence = "";
+    }
 
     void same(String what, long got, long want) {
         if (got != want) {
-            wrong++;
-            System.out.println(what + " answered " + got + ", due is " + want);
+            tell(what + " answered " + got + ", due is " + want);
         }
     }
 
@@ -35,8 +48,12 @@ final class Check {
             }
             got = "threw " + e.getClass().getSimpleName();
         }
+        tell(what + " " + got + ", due is " + due.getSimpleName());
+    }
+
+    private void tell(String what) {
         wrong++;
-        System.out.println(what + " " + got + ", due is " + due.getSimpleName());
+        System.out.println(sentence + what);
     }
 
     void end() {

@@ -1,64 +1,106 @@
 /** Promise 2: feed. */
 final class FeedTest {
-    private static final int[] EDGES = {Integer.MIN_VALUE, -1, 0, 5, 6, 9, 10, 13, 14, 15, 16, 20, Integer.MAX_VALUE};
+    private final Check check = new Check();
 
     public static void main(String[] args) {
-        Check check = new Check();
-        for (int kind : new int[] {Integer.MIN_VALUE, -1, 0, 1, 2, 3, 4, Integer.MAX_VALUE}) {
-            for (int number : EDGES) {
-                feedOne(check, kind, number);
-            }
-        }
-        counts(check);
-        refusesTheNextAfterSixty(check);
+        new FeedTest().sentences();
+    }
+
+    private void sentences() {
+        check.sentence("One more pending token: how many there are.", this::counts, this::countsAnewBehindPrepare);
+        check.sentence("IllegalArgumentException, when it is none", this::noToken, this::noTokenLeavesThePending,
+                this::noTokenWhenThereAreSixty);
+        check.sentence("IllegalStateException, when there are 60", this::sixtyFirst, this::sixtyFirstLeavesThePending,
+                this::roomAgainBehindPrepare);
         check.end();
     }
 
-    private static boolean isToken(int kind, int number) {
-        switch (kind) {
-            case 0:
-                return 0 <= number && number <= 13;
-            case 1:
-                return 0 <= number && number <= 9;
-            case 2:
-                return 0 <= number && number <= 5 || 10 <= number && number <= 15;
-            default:
-                return kind == 3;
-        }
-    }
-
-    private static void feedOne(Check check, int kind, int number) {
-        CursorBase base = new CursorBase();
-        String call = "feed(" + kind + ", " + number + ")";
-        if (isToken(kind, number)) {
-            check.same(call, base.feed(kind, number), 1);
-        } else {
-            check.throwsArgument(call, () -> base.feed(kind, number));
-            check.same("the feed behind " + call, base.feed(0, 0), 1);
-        }
-    }
-
-    private static void counts(Check check) {
-        Talk talk = new Talk(check);
-        for (int i = 1; i <= 3; i++) {
-            check.same("feed " + i, talk.base.feed(3, i), i);
-        }
-        talk.base.prepare();
-        check.same("feed behind a wrong prepare()", talk.base.feed(0, 0), 1);
-        talk.feed("t0 1");
-        check.same("prepare()", talk.base.prepare(), 0);
-        check.same("feed behind a right prepare()", talk.base.feed(0, 0), 1);
-    }
-
-    private static void refusesTheNextAfterSixty(Check check) {
+    private CursorBase withSixty() {
         CursorBase base = new CursorBase();
         for (int i = 1; i <= 60; i++) {
             check.same("feed " + i, base.feed(3, i), i);
         }
+        return base;
+    }
+
+    private void counts() {
+        CursorBase base = new CursorBase();
+        for (int i = 1; i <= 60; i++) {
+            check.same("feed " + i, base.feed(i % 4, i % 6), i);
+        }
+    }
+
+    private void countsAnewBehindPrepare() {
+        Talk talk = new Talk(check);
+        talk.feed("1 2 3");
+        check.same("prepare() of no statement", talk.base.prepare(), -1);
+        check.same("feed behind a wrong prepare()", talk.base.feed(0, 0), 1);
+        talk.feed("t0");
+        check.same("the third feed", talk.base.feed(3, 1), 3);
+        check.same("prepare()", talk.base.prepare(), 0);
+        check.same("feed behind a right prepare()", talk.base.feed(0, 0), 1);
+    }
+
+    private void refuses(CursorBase base, int kind, int number) {
+        check.throwsArgument("feed(" + kind + ", " + number + ")", () -> base.feed(kind, number));
+    }
+
+    private void refusesAllThatAreNone(CursorBase base) {
+        refuses(base, -1, 0);
+        refuses(base, 4, 0);
+        refuses(base, Integer.MIN_VALUE, 0);
+        refuses(base, Integer.MAX_VALUE, 0);
+        refuses(base, 0, -1);
+        refuses(base, 0, 14);
+        refuses(base, 1, -1);
+        refuses(base, 1, 10);
+        refuses(base, 2, -1);
+        refuses(base, 2, 6);
+        refuses(base, 2, 9);
+        refuses(base, 2, 16);
+    }
+
+    private void noToken() {
+        refusesAllThatAreNone(new CursorBase());
+    }
+
+    private void noTokenLeavesThePending() {
+        Talk talk = new Talk(check);
+        talk.feed("CREATE t3");
+        refusesAllThatAreNone(talk.base);
+        check.same("the third feed", talk.base.feed(3, 2), 3);
+        check.same("prepare()", talk.base.prepare(), 0);
+    }
+
+    private void noTokenWhenThereAreSixty() {
+        refusesAllThatAreNone(withSixty());
+    }
+
+    private void sixtyFirst() {
+        CursorBase base = withSixty();
+        for (int i = 0; i < 3; i++) {
+            check.throwsState("feed(3, 1) with 60", () -> base.feed(3, 1));
+            check.throwsState("feed(0, 13) with 60", () -> base.feed(0, 13));
+            check.throwsState("feed(1, 9) with 60", () -> base.feed(1, 9));
+            check.throwsState("feed(2, 15) with 60", () -> base.feed(2, 15));
+        }
+    }
+
+    /** What was refused is not behind the 60, and has not come in place of one of them. */
+    private void sixtyFirstLeavesThePending() {
+        Talk talk = new Talk(check, "CREATE t0 1");
+        talk.feed("INSERT t0" + " 1".repeat(58));
+        check.throwsState("feed(0, 13) with 60", () -> talk.base.feed(0, 13));
+        check.same("prepare() of 58 numbers", talk.base.prepare(), -5);
+    }
+
+    private void roomAgainBehindPrepare() {
+        CursorBase base = withSixty();
         check.throwsState("feed 61", () -> base.feed(3, 61));
-        check.throwsState("feed 61 again", () -> base.feed(0, 3));
-        check.throwsArgument("feed of no token when there are 60", () -> base.feed(0, 14));
         check.same("prepare() of 60 numbers", base.prepare(), -1);
-        check.same("feed behind that", base.feed(3, 1), 1);
+        for (int i = 1; i <= 60; i++) {
+            check.same("feed " + i + " behind that", base.feed(3, i), i);
+        }
+        check.throwsState("feed 61 again", () -> base.feed(3, 61));
     }
 }

@@ -185,15 +185,8 @@ final class ModelTest {
     }
 
     private void feed(String token) {
-        int word = Talk.WORDS.indexOf(token);
-        char sign = token.charAt(0);
-        if (word >= 0) {
-            call("feed", 0, word, false);
-        } else if (sign == 't' || sign == 'c') {
-            call("feed", sign == 't' ? 1 : 2, Integer.parseInt(token.substring(1)), false);
-        } else {
-            call("feed", 3, Integer.parseInt(token), false);
-        }
+        int[] pair = Talk.tokenOf(token);
+        call("feed", pair[0], pair[1], false);
     }
 
     private void call(String name, int a, int b, boolean up) {

@@ -1,27 +1,47 @@
-/** Promise 1: no tables, no tokens, no statement. */
+/** Promise 1: a new object. */
 final class NewObjectTest {
+    private final Check check = new Check();
+
     public static void main(String[] args) {
-        Check check = new Check();
-        CursorBase base = new CursorBase();
+        new NewObjectTest().sentences();
+    }
+
+    private void sentences() {
+        check.sentence("No tables", this::noTables);
+        check.sentence("no tokens", this::noTokens);
+        check.sentence("no statement", this::noStatement);
+        check.sentence("CursorBase()", this::objectsAreApart);
+        check.end();
+    }
+
+    private void noTables() {
+        Talk talk = new Talk(check);
         for (int t = 0; t <= 9; t++) {
-            check.same("rows(" + t + ")", base.rows(t), CursorBase.NONE);
+            int table = t;
+            talk.rows(t, CursorBase.NONE);
+            check.throwsArgument("nearest(" + t + ", 0, true)", () -> talk.base.nearest(table, 0, true));
+            talk.prepared("SELECT ALL FROM t" + t, -2);
         }
-        check.same("NONE", CursorBase.NONE, -1);
-        check.same("all()", base.all(), 0);
+        talk.all(0);
+    }
+
+    private void noTokens() {
+        check.same("the first feed", new CursorBase().feed(3, 0), 1);
+        check.same("prepare() without tokens", new CursorBase().prepare(), -1);
+        Talk talk = new Talk(check);
+        talk.prepared("CREATE t0 1", 0);
+    }
+
+    private void noStatement() {
+        CursorBase base = new CursorBase();
         check.throwsState("step()", base::step);
         check.throwsState("reset()", base::reset);
         check.throwsState("width()", base::width);
         check.throwsState("column(0)", () -> base.column(0));
-        check.same("prepare() without tokens", base.prepare(), -1);
-        check.throwsState("step() behind that", base::step);
-        check.same("the first feed", base.feed(3, 0), 1);
-        objectsAreApart(check);
-        check.end();
     }
 
-    private static void objectsAreApart(Check check) {
-        Talk one = new Talk(check);
-        one.done("CREATE t0 1", "INSERT t0 5");
+    private void objectsAreApart() {
+        Talk one = new Talk(check, "CREATE t0 1", "INSERT t0 5");
         one.feed("SELECT");
         CursorBase other = new CursorBase();
         check.same("rows(0) of another object", other.rows(0), CursorBase.NONE);

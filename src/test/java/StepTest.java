@@ -1,178 +1,256 @@
-/** Promise 4: step, with what the statements do. */
+/** Promise 4: step. */
 final class StepTest {
-    private static Talk squares(Check check) {
-        Talk talk = new Talk(check);
-        talk.done("CREATE t0 2");
-        for (int key : new int[] {5, 1, 9, 3}) {
-            talk.done("INSERT t0 " + key + " " + key * key);
-        }
-        return talk;
-    }
+    private final Check check = new Check();
 
     public static void main(String[] args) {
-        Check check = new Check();
-        check.throwsState("step() without a statement", new CursorBase()::step);
-        create(check);
-        insert(check);
-        insertAtTheMostRows(check);
-        deleteRows(check);
-        selectInOrder(check);
-        selectOfTwoTables(check);
-        selectTotals(check);
-        comparisons(check);
-        endsAgainAndAgain(check);
+        new StepTest().sentences();
+    }
+
+    private void sentences() {
+        check.sentence("1 when there is a row (the next one)", this::rowByRow, this::goesOnBetweenOtherCalls);
+        check.sentence("0 at its end, also again and again", this::endOfRows, this::endOfNoRows, this::endOfTotals);
+        check.sentence("CREATE, INSERT and DELETE are done by the first step, which ends them", this::createOnce,
+                this::insertOnce, this::deleteOnce);
+        check.sentence("behind reset() they are done once more", this::insertOnceMore, this::deleteOnceMore);
+        check.sentence("INSERT with a key that is there is -1", this::keyIsThere);
+        check.sentence("with 400 rows in all -2", this::rowsAreFull, this::theLastRowThatFits);
+        check.sentence("(looked at after the key)", this::keyIsThereWhenRowsAreFull);
+        check.sentence("CREATE of a table that has come since -3", this::tableHasCome);
+        check.sentence("nothing changes", this::keyThatIsThereChangesNothing, this::fullRowsChangeNothing,
+                this::tableThatHasComeChangesNothing);
+        check.sentence("and that is their end, too", this::endBehindKeyIsThere, this::endBehindRowsAreFull,
+                this::endBehindTableHasCome);
+        check.sentence("IllegalStateException, when there is no statement", this::noStatement);
         check.end();
     }
 
-    private static void create(Check check) {
-        Talk talk = new Talk(check);
-        talk.done("CREATE t9 6");
-        check.same("rows(9)", talk.base.rows(9), 0);
-        check.same("step() at the end of CREATE", talk.base.step(), 0);
-        talk.done("INSERT t9 1 2 3 4 5 6");
-        talk.prepared("CREATE t8 1", 0);
-        check.same("step()", talk.base.step(), 0);
-        talk.base.reset();
-        check.same("step() of CREATE once more", talk.base.step(), -3);
-        check.same("step() behind -3", talk.base.step(), 0);
-        check.same("reset() behind -3", talk.base.reset(), 0);
-        check.same("rows(8)", talk.base.rows(8), 0);
-        check.same("rows(9) as it was", talk.base.rows(9), 1);
-        talk.selected("SELECT ALL FROM t9", Talk.row(1, 2, 3, 4, 5, 6));
+    private Talk threeRows() {
+        return new Talk(check, "CREATE t0 2", "INSERT t0 2 20", "INSERT t0 3 30", "INSERT t0 1 10");
     }
 
-    private static void insert(Check check) {
-        Talk talk = squares(check);
-        talk.stepped("INSERT t0 5 7", -1);
-        check.same("step() behind -1", talk.base.step(), 0);
-        talk.prepared("INSERT t0 4 16", 0);
-        check.same("step()", talk.base.step(), 0);
-        check.same("step() at the end of INSERT", talk.base.step(), 0);
-        check.same("rows(0)", talk.base.rows(0), 5);
-        check.same("reset()", talk.base.reset(), 0);
-        check.same("step() of INSERT once more", talk.base.step(), -1);
-        talk.done("DELETE t0 WHERE c0 IS 4", "INSERT t0 4 0");
-        talk.done("INSERT t0 -2147483648 1", "INSERT t0 2147483647 2");
-        talk.selected("SELECT ALL FROM t0", Talk.row(-2147483648, 1), Talk.row(1, 1), Talk.row(3, 9),
-                Talk.row(4, 0), Talk.row(5, 25), Talk.row(9, 81), Talk.row(2147483647, 2));
-        talk.done("CREATE t1 1", "INSERT t1 5");
-        check.same("the same key in another table", talk.base.rows(1), 1);
+    private void rowByRow() {
+        Talk talk = threeRows();
+        talk.selected("SELECT ALL FROM t0", Talk.row(1, 10), Talk.row(2, 20), Talk.row(3, 30));
+        talk.selected("SELECT c0 FROM t0 FALLING", Talk.row(3), Talk.row(2), Talk.row(1));
+        talk.selected("SELECT c0 c11 FROM t0 t0 WHERE c0 BELOW c10", Talk.row(1, 20), Talk.row(1, 30), Talk.row(2, 30));
+        talk.selected("SELECT COUNT FROM t0", Talk.row(3));
     }
 
-    /** More calls than an object is promised to take, but there is no other way to 400 rows. */
-    private static void insertAtTheMostRows(Check check) {
-        Talk talk = new Talk(check);
-        talk.done("CREATE t0 6", "CREATE t4 6");
-        for (int i = 0; i < 400; i++) {
-            talk.done("INSERT t" + i % 2 * 4 + " " + i * 37 % 400 + " 1 2 3 4 " + i);
+    private void goesOnBetweenOtherCalls() {
+        Talk talk = threeRows();
+        talk.prepared("SELECT c0 FROM t0", 0);
+        talk.step("to the first row", 1);
+        talk.feed("SELECT");
+        talk.rows(0, 3);
+        talk.all(3);
+        check.same("nearest(0, 9, false)", talk.base.nearest(0, 9, false), 3);
+        check.throwsState("nearest(0, 9, true)", () -> talk.base.nearest(0, 9, true));
+        check.throwsArgument("feed(9, 9)", () -> talk.base.feed(9, 9));
+        check.throwsIndex("column(1)", () -> talk.base.column(1));
+        talk.gives("the statement", Talk.row(2), Talk.row(3));
+    }
+
+    private void endsAgainAndAgain(Talk talk, String statement, int rows) {
+        talk.prepared(statement, 0);
+        for (int i = 0; i < rows; i++) {
+            talk.step("to row " + i + " of " + statement, 1);
         }
-        check.same("all()", talk.base.all(), 400);
-        talk.stepped("INSERT t4 400 0 0 0 0 0", -2);
-        check.same("step() behind -2", talk.base.step(), 0);
-        check.same("reset() behind -2", talk.base.reset(), 0);
-        check.same("step() once more", talk.base.step(), -2);
-        talk.stepped("INSERT t0 0 0 0 0 0 0", -1);
-        check.same("all() as it was", talk.base.all(), 400);
-        talk.selected("SELECT SUM c5 FROM t0", Talk.row(199 * 200));
-        talk.selected("SELECT SUM c5 FROM t4", Talk.row(200 * 200));
-        talk.selected("SELECT COUNT FROM t0 t4", Talk.row(200 * 200));
-        talk.selected("SELECT COUNT FROM t4 t4 WHERE c0 BELOW c10", Talk.row(199 * 100));
-        talk.done("DELETE t0 WHERE c0 IS 0", "INSERT t4 400 0 0 0 0 0");
-        talk.stepped("INSERT t0 0 0 0 0 0 0", -2);
-        talk.done("DELETE t0", "DELETE t4");
-        check.same("all() at last", talk.base.all(), 0);
-    }
-
-    private static void deleteRows(Check check) {
-        Talk talk = squares(check);
-        talk.done("CREATE t1 1", "INSERT t1 3", "INSERT t1 4", "CREATE t2 1", "INSERT t2 8");
-        talk.done("DELETE t0 WHERE c0 ABOVE 1 AND c1 BELOW 26");
-        check.same("step() at the end of DELETE", talk.base.step(), 0);
-        talk.selected("SELECT ALL FROM t0", Talk.row(1, 1), Talk.row(9, 81));
-        talk.selected("SELECT ALL FROM t1", Talk.row(3), Talk.row(4));
-        talk.done("DELETE t1 WHERE c0 IS 99");
-        check.same("rows(1)", talk.base.rows(1), 2);
-        talk.done("DELETE t1");
-        check.same("reset() of DELETE", talk.base.reset(), 0);
-        check.same("step() of DELETE once more", talk.base.step(), 0);
-        check.same("rows(1)", talk.base.rows(1), 0);
-        talk.done("DELETE t0 WHERE 1 IS 2", "DELETE t0 WHERE c0 IS c1");
-        talk.selected("SELECT ALL FROM t0", Talk.row(9, 81));
-        talk.selected("SELECT ALL FROM t2", Talk.row(8));
-        talk.selected("SELECT ALL FROM t1");
-    }
-
-    private static void selectInOrder(Check check) {
-        Talk talk = squares(check);
-        talk.selected("SELECT ALL FROM t0", Talk.row(1, 1), Talk.row(3, 9), Talk.row(5, 25), Talk.row(9, 81));
-        talk.selected("SELECT c1 c0 c1 FROM t0 FALLING", Talk.row(81, 9, 81), Talk.row(25, 5, 25),
-                Talk.row(9, 3, 9), Talk.row(1, 1, 1));
-        talk.selected("SELECT c0 FROM t0 WHERE c1 ABOVE 1 AND c1 BELOW 81 FALLING", Talk.row(5), Talk.row(3));
-        talk.selected("SELECT c0 FROM t0 WHERE c0 IS 2");
-        talk.done("CREATE t3 4");
-        talk.selected("SELECT ALL FROM t3");
-        check.same("width() of no rows", talk.base.width(), 4);
-        talk.selected("SELECT ALL FROM t3 FALLING");
-    }
-
-    private static void selectOfTwoTables(Check check) {
-        Talk talk = new Talk(check);
-        talk.done("CREATE t0 1", "CREATE t1 2", "INSERT t0 2", "INSERT t0 1", "INSERT t1 7 1", "INSERT t1 6 2");
-        talk.selected("SELECT ALL FROM t0 t1", Talk.row(1, 6, 2), Talk.row(1, 7, 1), Talk.row(2, 6, 2), Talk.row(2, 7, 1));
-        talk.selected("SELECT ALL FROM t1 t0 FALLING", Talk.row(7, 1, 2), Talk.row(7, 1, 1), Talk.row(6, 2, 2),
-                Talk.row(6, 2, 1));
-        talk.selected("SELECT c10 c0 FROM t0 t1 WHERE c0 IS c11", Talk.row(7, 1), Talk.row(6, 2));
-        talk.selected("SELECT c0 c10 FROM t0 t0 WHERE c10 ABOVE c0", Talk.row(1, 2));
-        talk.selected("SELECT ALL FROM t1 t1 WHERE c0 IS 7 AND 7 ABOVE c10", Talk.row(7, 1, 6, 2));
-        talk.done("CREATE t2 3");
-        talk.selected("SELECT ALL FROM t0 t2");
-        talk.selected("SELECT ALL FROM t2 t0");
-        talk.selected("SELECT COUNT FROM t2 t2", Talk.row(0));
-    }
-
-    private static void selectTotals(Check check) {
-        Talk talk = squares(check);
-        talk.selected("SELECT COUNT FROM t0", Talk.row(4));
-        talk.selected("SELECT COUNT FROM t0 WHERE c0 ABOVE 3 FALLING", Talk.row(2));
-        talk.selected("SELECT COUNT FROM t0 t0", Talk.row(16));
-        talk.selected("SELECT SUM c1 FROM t0", Talk.row(116));
-        talk.selected("SELECT SUM c10 FROM t0 t0 WHERE c0 IS 1", Talk.row(18));
-        talk.selected("SELECT SUM c0 FROM t0 WHERE c0 IS 2", Talk.row(0));
-        talk.selected("SELECT COUNT FROM t0 WHERE c0 IS 2", Talk.row(0));
-        talk.done("CREATE t1 1", "INSERT t1 2147483647", "INSERT t1 2147483646");
-        talk.selected("SELECT SUM c0 FROM t1", Talk.row(4294967293L));
-        talk.selected("SELECT SUM c0 FROM t1 t0", Talk.row(17179869172L));
-        talk.done("DELETE t1", "INSERT t1 -2147483648", "INSERT t1 -2147483647");
-        talk.selected("SELECT SUM c0 FROM t1", Talk.row(-4294967295L));
-    }
-
-    private static void comparisons(Check check) {
-        Talk talk = new Talk(check);
-        talk.done("CREATE t0 1", "INSERT t0 -2147483648", "INSERT t0 0", "INSERT t0 2147483647");
-        talk.selected("SELECT ALL FROM t0 WHERE c0 BELOW 0", Talk.row(-2147483648));
-        talk.selected("SELECT ALL FROM t0 WHERE c0 ABOVE 0", Talk.row(2147483647));
-        talk.selected("SELECT ALL FROM t0 WHERE c0 IS 0", Talk.row(0));
-        talk.selected("SELECT ALL FROM t0 WHERE 0 BELOW c0", Talk.row(2147483647));
-        talk.selected("SELECT ALL FROM t0 WHERE -2147483648 ABOVE c0");
-        talk.selected("SELECT ALL FROM t0 WHERE c0 ABOVE -2147483648", Talk.row(0), Talk.row(2147483647));
-        talk.selected("SELECT COUNT FROM t0 WHERE -2147483648 BELOW 2147483647", Talk.row(3));
-        talk.selected("SELECT COUNT FROM t0 WHERE 3 IS 3 AND 3 ABOVE 3", Talk.row(0));
-        talk.selected("SELECT COUNT FROM t0 WHERE c0 IS c0", Talk.row(3));
-        talk.selected("SELECT COUNT FROM t0 WHERE c0 BELOW c0", Talk.row(0));
-        String seven = "WHERE 1 IS 1" + " AND 1 IS 1".repeat(6);
-        talk.selected("SELECT COUNT FROM t0 " + seven + " AND c0 IS 0", Talk.row(1));
-    }
-
-    private static void endsAgainAndAgain(Check check) {
-        Talk talk = squares(check);
-        for (String statement : new String[] {"SELECT ALL FROM t0", "SELECT COUNT FROM t0", "SELECT SUM c0 FROM t0"}) {
-            talk.prepared(statement, 0);
-            for (int i = 0; i < 5 && talk.base.step() == 1; i++) {
-                check.same("width() of a row", talk.base.width(), statement.contains("ALL") ? 2 : 1);
-            }
-            for (int i = 0; i < 3; i++) {
-                check.same("step() behind the end of " + statement, talk.base.step(), 0);
-            }
+        for (int i = 0; i < 5; i++) {
+            talk.step("at the end of " + statement, 0);
         }
+        talk.hasNoRow("at the end of " + statement);
+    }
+
+    private void endOfRows() {
+        Talk talk = threeRows();
+        endsAgainAndAgain(talk, "SELECT ALL FROM t0", 3);
+        endsAgainAndAgain(talk, "SELECT ALL FROM t0 FALLING", 3);
+        endsAgainAndAgain(talk, "SELECT ALL FROM t0 WHERE c0 IS 3", 1);
+        endsAgainAndAgain(talk, "SELECT ALL FROM t0 t0", 9);
+    }
+
+    private void endOfNoRows() {
+        Talk talk = threeRows();
+        talk.done("CREATE t1 1");
+        endsAgainAndAgain(talk, "SELECT ALL FROM t1", 0);
+        endsAgainAndAgain(talk, "SELECT ALL FROM t1 t0 FALLING", 0);
+        endsAgainAndAgain(talk, "SELECT ALL FROM t0 t1", 0);
+        endsAgainAndAgain(talk, "SELECT ALL FROM t0 WHERE c0 IS 4", 0);
+    }
+
+    private void endOfTotals() {
+        Talk talk = threeRows();
+        endsAgainAndAgain(talk, "SELECT COUNT FROM t0", 1);
+        endsAgainAndAgain(talk, "SELECT SUM c1 FROM t0", 1);
+        endsAgainAndAgain(talk, "SELECT COUNT FROM t0 WHERE 1 IS 2", 1);
+        endsAgainAndAgain(talk, "SELECT SUM c1 FROM t0 WHERE 1 IS 2", 1);
+    }
+
+    private void createOnce() {
+        Talk talk = new Talk(check);
+        talk.prepared("CREATE t9 6", 0);
+        talk.rows(9, CursorBase.NONE);
+        for (int i = 0; i < 4; i++) {
+            talk.step("of CREATE", 0);
+            talk.rows(9, 0);
+        }
+    }
+
+    private void insertOnce() {
+        Talk talk = threeRows();
+        talk.prepared("INSERT t0 4 40", 0);
+        talk.rows(0, 3);
+        for (int i = 0; i < 4; i++) {
+            talk.step("of INSERT", 0);
+            talk.rows(0, 4);
+        }
+    }
+
+    private void deleteOnce() {
+        Talk talk = threeRows();
+        talk.prepared("DELETE t0 WHERE c0 ABOVE 1", 0);
+        talk.rows(0, 3);
+        for (int i = 0; i < 4; i++) {
+            talk.step("of DELETE", 0);
+            talk.rows(0, 1);
+        }
+        talk.selected("SELECT ALL FROM t0", Talk.row(1, 10));
+    }
+
+    private void insertOnceMore() {
+        Talk talk = threeRows();
+        talk.done("INSERT t0 4 40");
+        talk.reset("of INSERT", 0);
+        talk.step("of INSERT once more", -1);
+        talk.rows(0, 4);
+    }
+
+    private void deleteOnceMore() {
+        Talk talk = threeRows();
+        talk.done("DELETE t0 WHERE c0 IS 2");
+        talk.reset("of DELETE", 0);
+        talk.step("of DELETE once more", 0);
+        talk.selected("SELECT c0 FROM t0", Talk.row(1), Talk.row(3));
+    }
+
+    private void keyIsThere() {
+        Talk talk = threeRows();
+        for (int key = 1; key <= 3; key++) {
+            talk.stepped("INSERT t0 " + key + " 7", -1);
+        }
+        talk.stepped("INSERT t0 4 10", 0);
+        talk.done("DELETE t0 WHERE c0 IS 2", "INSERT t0 2 7");
+    }
+
+    private void rowsAreFull() {
+        Talk talk = Talk.full(check, 2);
+        for (int key : new int[] {-1, 400, Integer.MIN_VALUE, Integer.MAX_VALUE}) {
+            talk.stepped("INSERT t0 " + key + " 0", -2);
+            talk.stepped("INSERT t1 " + key + " 0", -2);
+        }
+    }
+
+    private void theLastRowThatFits() {
+        Talk talk = Talk.full(check, 2);
+        talk.done("DELETE t1 WHERE c0 IS 1");
+        talk.all(399);
+        talk.stepped("INSERT t0 1 1", 0);
+        talk.reset("of INSERT", 0);
+        talk.step("of INSERT with 400 rows, whose key is there now", -1);
+        talk.stepped("INSERT t1 1 1", -2);
+    }
+
+    private void keyIsThereWhenRowsAreFull() {
+        Talk talk = Talk.full(check, 2);
+        for (int key = 0; key < 400; key += 57) {
+            talk.stepped("INSERT t" + key % 2 + " " + key + " 0", -1);
+            talk.stepped("INSERT t" + (key + 1) % 2 + " " + key + " 0", -2);
+        }
+    }
+
+    private Talk createdAndReset() {
+        Talk talk = new Talk(check, "CREATE t7 1", "INSERT t7 1", "CREATE t8 2");
+        talk.reset("of CREATE", 0);
+        return talk;
+    }
+
+    private void tableHasCome() {
+        Talk talk = createdAndReset();
+        talk.step("of CREATE once more", -3);
+        talk.reset("of CREATE", 0);
+        talk.step("of CREATE yet once more", -3);
+    }
+
+    private void keyThatIsThereChangesNothing() {
+        Talk talk = threeRows();
+        talk.stepped("INSERT t0 2 99", -1);
+        talk.all(3);
+        talk.selected("SELECT ALL FROM t0", Talk.row(1, 10), Talk.row(2, 20), Talk.row(3, 30));
+    }
+
+    private void fullRowsChangeNothing() {
+        Talk talk = Talk.full(check, 2);
+        talk.stepped("INSERT t0 -1 7", -2);
+        talk.stepped("INSERT t1 400 7", -2);
+        talk.all(400);
+        talk.rows(0, 200);
+        talk.rows(1, 200);
+        talk.selected("SELECT SUM c0 FROM t0", Talk.row(199 * 200));
+        talk.selected("SELECT SUM c1 FROM t1", Talk.row(2 * 200 * 200));
+        check.same("nearest(0, -5, true)", talk.base.nearest(0, -5, true), 0);
+        check.same("nearest(1, 500, false)", talk.base.nearest(1, 500, false), 399);
+    }
+
+    private void tableThatHasComeChangesNothing() {
+        Talk talk = createdAndReset();
+        talk.step("of CREATE once more", -3);
+        talk.rows(8, 0);
+        talk.selected("SELECT ALL FROM t7", Talk.row(1));
+        talk.done("INSERT t8 3 4");
+        talk.selected("SELECT ALL FROM t8", Talk.row(3, 4));
+    }
+
+    /** The step that did not do it was the first one: now the statement is at its end. */
+    private void isAtItsEnd(Talk talk) {
+        talk.hasNoRow("behind what was not done");
+        for (int i = 0; i < 3; i++) {
+            talk.step("behind what was not done", 0);
+        }
+        talk.reset("behind what was not done", 0);
+    }
+
+    private void endBehindKeyIsThere() {
+        Talk talk = threeRows();
+        talk.stepped("INSERT t0 1 9", -1);
+        isAtItsEnd(talk);
+        talk.step("of INSERT once more", -1);
+        isAtItsEnd(talk);
+    }
+
+    private void endBehindRowsAreFull() {
+        Talk talk = Talk.full(check, 5);
+        talk.stepped("INSERT t0 -1 9", -2);
+        isAtItsEnd(talk);
+        talk.step("of INSERT once more", -2);
+        isAtItsEnd(talk);
+    }
+
+    private void endBehindTableHasCome() {
+        Talk talk = createdAndReset();
+        talk.step("of CREATE once more", -3);
+        isAtItsEnd(talk);
+        talk.step("of CREATE yet once more", -3);
+        isAtItsEnd(talk);
+    }
+
+    private void noStatement() {
+        check.throwsState("step() of a new object", new CursorBase()::step);
+        Talk talk = new Talk(check);
+        talk.feed("CREATE t0 1");
+        check.throwsState("step() before prepare()", talk.base::step);
+        check.same("prepare()", talk.base.prepare(), 0);
+        talk.step("behind prepare()", 0);
+        talk.base.clear();
+        check.throwsState("step() behind clear()", talk.base::step);
     }
 }

@@ -8,8 +8,23 @@ final class Talk {
     final CursorBase base = new CursorBase();
     private final Check check;
 
-    Talk(Check check) {
+    /** A new object on which these statements have been done. */
+    Talk(Check check, String... statements) {
         this.check = check;
+        done(statements);
+    }
+
+    /** With 400 rows in the tables 0 to count - 1, in turn: the keys 0 to 399, and beside each its double. */
+    static Talk full(Check check, int count) {
+        Talk talk = new Talk(check);
+        for (int t = 0; t < count; t++) {
+            talk.done("CREATE t" + t + " 2");
+        }
+        for (int i = 0; i < 400; i++) {
+            int key = i * 37 % 400;
+            talk.done("INSERT t" + key % count + " " + key + " " + 2 * key);
+        }
+        return talk;
     }
 
     void feed(String tokens) {
@@ -21,15 +36,19 @@ final class Talk {
     }
 
     private void feedOne(String token) {
+        int[] pair = tokenOf(token);
+        base.feed(pair[0], pair[1]);
+    }
+
+    /** The kind and the number of a token that is written out. */
+    static int[] tokenOf(String token) {
         if (WORDS.contains(token)) {
-            base.feed(0, WORDS.indexOf(token));
-        } else if (token.charAt(0) == 't') {
-            base.feed(1, Integer.parseInt(token.substring(1)));
-        } else if (token.charAt(0) == 'c') {
-            base.feed(2, Integer.parseInt(token.substring(1)));
-        } else {
-            base.feed(3, Integer.parseInt(token));
+            return new int[] {0, WORDS.indexOf(token)};
         }
+        if (token.charAt(0) == 't' || token.charAt(0) == 'c') {
+            return new int[] {token.charAt(0) == 't' ? 1 : 2, Integer.parseInt(token.substring(1))};
+        }
+        return new int[] {3, Integer.parseInt(token)};
     }
 
     int prepare(String tokens) {
@@ -50,7 +69,23 @@ final class Talk {
 
     void stepped(String tokens, int due) {
         prepared(tokens, 0);
-        check.same("step() of '" + tokens + "'", base.step(), due);
+        step("of '" + tokens + "'", due);
+    }
+
+    void step(String what, int due) {
+        check.same("step() " + what, base.step(), due);
+    }
+
+    void reset(String what, int due) {
+        check.same("reset() " + what, base.reset(), due);
+    }
+
+    void rows(int table, int due) {
+        check.same("rows(" + table + ")", base.rows(table), due);
+    }
+
+    void all(int due) {
+        check.same("all()", base.all(), due);
     }
 
     /** A SELECT that gives just these rows. */
@@ -62,10 +97,10 @@ final class Talk {
     /** The rows that the statement at hand still gives, and its end. */
     void gives(String what, long[]... due) {
         for (int i = 0; i < due.length; i++) {
-            check.same("step() to row " + i + " of '" + what + "'", base.step(), 1);
+            step("to row " + i + " of '" + what + "'", 1);
             isOn("row " + i + " of '" + what + "'", due[i]);
         }
-        check.same("step() to the end of '" + what + "'", base.step(), 0);
+        step("to the end of '" + what + "'", 0);
     }
 
     void isOn(String what, long... due) {
@@ -73,6 +108,10 @@ final class Talk {
         for (int j = 0; j < due.length; j++) {
             check.same("column(" + j + ") on " + what, base.column(j), due[j]);
         }
+    }
+
+    void hasNoRow(String what) {
+        check.throwsState("column(0) " + what, () -> base.column(0));
     }
 
     static long[] row(long... columns) {
