@@ -1,3 +1,4 @@
+import java.lang.reflect.Constructor;
 import java.lang.reflect.Field;
 import java.lang.reflect.Member;
 import java.lang.reflect.Method;
@@ -9,16 +10,16 @@ import java.util.TreeSet;
 /** The public face, and the first rule of LANGUAGE.md: nothing else is to be seen. */
 final class FaceTest {
     private static final Set<String> METHODS = new TreeSet<>(Arrays.asList(
-            "int feed(int, int) throws IllegalArgumentException, IllegalStateException",
-            "int prepare()",
-            "int step() throws IllegalStateException",
-            "int reset() throws IllegalStateException",
-            "int width() throws IllegalStateException",
-            "long column(int) throws IllegalStateException, IndexOutOfBoundsException",
-            "int rows(int) throws IllegalArgumentException",
-            "int all()",
-            "int nearest(int, int, boolean) throws IllegalArgumentException, IllegalStateException",
-            "void clear()"));
+            "public int feed(int, int) throws IllegalArgumentException, IllegalStateException",
+            "public int prepare()",
+            "public int step() throws IllegalStateException",
+            "public int reset() throws IllegalStateException",
+            "public int width() throws IllegalStateException",
+            "public long column(int) throws IllegalStateException, IndexOutOfBoundsException",
+            "public int rows(int) throws IllegalArgumentException",
+            "public int all()",
+            "public int nearest(int, int, boolean) throws IllegalArgumentException, IllegalStateException",
+            "public void clear()"));
 
     public static void main(String[] args) {
         Check check = new Check();
@@ -32,19 +33,42 @@ final class FaceTest {
         }
         System.out.println("methods: " + seen);
         check.same("the methods are the face's (1: they are)", seen.equals(METHODS) ? 1 : 0, 1);
-        for (Field field : CursorBase.class.getDeclaredFields()) {
-            check.same("field " + field.getName() + " is to be seen", isSeen(field) ? 1 : 0,
-                    field.getName().equals("NONE") ? 1 : 0);
-        }
-        check.same("constructors", CursorBase.class.getDeclaredConstructors().length, 1);
-        check.same("public constructors", CursorBase.class.getConstructors().length, 1);
-        check.same("the class is final", Modifier.isFinal(CursorBase.class.getModifiers()) ? 1 : 0, 1);
+        onlyNoneIsSeen(check);
+        onlyOneConstructor(check);
+        isSo(check, "the class is public and final and stands alone",
+                CursorBase.class.getModifiers() == (Modifier.PUBLIC | Modifier.FINAL)
+                        && CursorBase.class.getSuperclass() == Object.class
+                        && CursorBase.class.getInterfaces().length == 0
+                        && CursorBase.class.getPackageName().isEmpty());
         for (Class<?> inner : CursorBase.class.getDeclaredClasses()) {
-            check.same(inner.getName() + " is static", Modifier.isStatic(inner.getModifiers()) ? 1 : 0, 1);
+            int open = inner.getModifiers() & (Modifier.PUBLIC | Modifier.PROTECTED);
+            isSo(check, inner.getName() + " is static", Modifier.isStatic(inner.getModifiers()));
+            isSo(check, inner.getName() + " is private or package-visible", open == 0);
             privateNamesDiffer(check, inner, names);
         }
         privateNamesDiffer(check, CursorBase.class, names);
         check.end();
+    }
+
+    private static void isSo(Check check, String what, boolean got) {
+        check.same(what + " (1: so it is)", got ? 1 : 0, 1);
+    }
+
+    private static void onlyNoneIsSeen(Check check) {
+        String seen = "";
+        for (Field field : CursorBase.class.getDeclaredFields()) {
+            seen += isSeen(field) ? field.toString() + ";" : "";
+        }
+        isSo(check, "NONE alone is to be seen, not " + seen,
+                seen.equals("public static final int CursorBase.NONE;"));
+        check.same("NONE", CursorBase.NONE, -1);
+    }
+
+    private static void onlyOneConstructor(Check check) {
+        Constructor<?>[] constructors = CursorBase.class.getDeclaredConstructors();
+        check.same("constructors", constructors.length, 1);
+        isSo(check, "the constructor is public CursorBase(), not " + constructors[0],
+                constructors[0].toString().equals("public CursorBase()"));
     }
 
     private static boolean isSeen(Member member) {
@@ -53,8 +77,8 @@ final class FaceTest {
 
     private static String faceOf(Method method) {
         String thrown = simpleNames(method.getExceptionTypes());
-        return method.getReturnType().getSimpleName() + " " + method.getName()
-                + "(" + simpleNames(method.getParameterTypes()) + ")" + (thrown.isEmpty() ? "" : " throws " + thrown);
+        return Modifier.toString(method.getModifiers()) + " " + method.getReturnType().getSimpleName()
+                + " " + method.getName() + "(" + simpleNames(method.getParameterTypes()) + ")" + (thrown.isEmpty() ? "" : " throws " + thrown);
     }
 
     private static String simpleNames(Class<?>[] types) {
